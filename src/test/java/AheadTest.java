@@ -9,6 +9,7 @@ public final class AheadTest {
         promise19();
         promise19LastTick();
         promise20();
+        promise20AfterBuilding();
         promise21();
         promise22();
         nothingIsChanged();
@@ -123,6 +124,19 @@ public final class AheadTest {
         Check.refuses(x, "foresee(1, 3)", INDEX, () -> x.foresee(1, 3));
         Check.refuses(x, "foresee(1, -1)", INDEX, () -> x.foresee(1, -1));
         Check.refuses(x, "foresee(0, 3)", ARGUMENT, () -> x.foresee(0, 3));
+    }
+
+    private static void promise20AfterBuilding() {
+        FogBridge x = new FogBridge();
+        x.come(0, 2, 30, 3, 100, false);
+        x.come(0, 1, 30, 3, 100, false);
+        Check.is("by the tolls at first", x.foresee(2, 1), 5 + 4);
+        Check.is("both on it", x.foresee(2, 2), 2);
+        x.setToll(4, 7);
+        Check.is("by the tolls now", x.foresee(2, 1), 8 + 21 + 4 + 21);
+        x.rebuild(4, 59);
+        Check.is("by what it bears now", x.foresee(2, 2), 1);
+        Check.is("by its places now", x.over(0), 3);
     }
 
     private static void promise21() {
