@@ -1,3 +1,6 @@
+import java.util.function.Consumer;
+import java.util.function.Supplier;
+
 /** Compares answers with those that are due, and counts the wrong ones. */
 final class Check {
     private static int compared = 0;
@@ -15,7 +18,7 @@ final class Check {
 
     static void isDouble(String call, double got, double due) {
         compared++;
-        if (got != due) {
+        if (Double.doubleToLongBits(got) != Double.doubleToLongBits(due)) {
             tellWrong(call + " answered " + got + ", due is " + due);
         }
     }
@@ -24,20 +27,32 @@ final class Check {
         is(what, got ? 1 : 0, 1);
     }
 
-    /** The call throws just this exception, and all that the object tells stays as it was. */
-    static void refuses(FogBridge x, String call, Class<? extends RuntimeException> due, Runnable run) {
-        compared++;
-        String before = Picture.of(x);
-        Class<?> got = null;
+    /** The call throws just this exception, and its object is like one that never had the call. */
+    static void refuses(String call, Class<? extends RuntimeException> due, Supplier<FogBridge> start,
+            Consumer<FogBridge> run) {
+        changesNothing(call, start, x -> {
+            Class<?> got = thrownBy(run, x);
+            isTrue(call + " threw " + got + ", due is " + due, got == due);
+        });
+    }
+
+    /** The call's object is like one that never had the call. */
+    static void changesNothing(String call, Supplier<FogBridge> start, Consumer<FogBridge> run) {
+        FogBridge used = start.get();
+        run.accept(used);
+        isTrue(call + " changes nothing", Picture.inUse(used).equals(Picture.inUse(start.get())));
+        FogBridge looked = start.get();
+        run.accept(looked);
+        isTrue(call + " changes nothing ahead", Picture.ahead(looked).equals(Picture.ahead(start.get())));
+    }
+
+    private static Class<?> thrownBy(Consumer<FogBridge> run, FogBridge x) {
         try {
-            run.run();
+            run.accept(x);
+            return null;
         } catch (RuntimeException e) {
-            got = e.getClass();
+            return e.getClass();
         }
-        if (got != due) {
-            tellWrong(call + " threw " + got + ", due is " + due);
-        }
-        isTrue(call + " changes nothing", before.equals(Picture.of(x)));
     }
 
     static void tellWrong(String text) {

@@ -1,11 +1,6 @@
-/** Promises 1 to 6: a new object and the code. */
+/** Promises 2 to 6, the code; what is empty or refused, and promise 1, stand in CodeEdgesTest. */
 public final class CodeTest {
-    private static final Class<IllegalArgumentException> ARGUMENT = IllegalArgumentException.class;
-    private static final Class<IllegalStateException> STATE = IllegalStateException.class;
-    private static final Class<IndexOutOfBoundsException> INDEX = IndexOutOfBoundsException.class;
-
     public static void main(String[] args) {
-        promise1();
         promise2();
         promise2Full();
         promise3();
@@ -17,63 +12,21 @@ public final class CodeTest {
         Check.finish("CodeTest");
     }
 
-    private static FogBridge withSignals(int... signals) {
-        FogBridge x = new FogBridge();
-        for (int i = 0; i < signals.length; i++) {
-            Check.is("addSignal(" + signals[i] + ")", x.addSignal(signals[i]), i);
-        }
-        return x;
-    }
-
-    private static void promise1() {
-        FogBridge x = new FogBridge();
-        int[] counts = {0, 0, 0, 0, 0, 0, 0, 0, 0, 10, 200};
-        for (int what = 0; what < counts.length; what++) {
-            Check.is("new: count(" + what + ")", x.count(what), counts[what]);
-        }
-        for (int end = 0; end <= 1; end++) {
-            for (int what = 0; what <= 3; what++) {
-                Check.is("new: box", x.box(end, what), 0);
-            }
-            Check.is("new: empty", x.empty(end), 0);
-        }
-        for (int tick = 0; tick < 20; tick++) {
-            Check.is("new: fog", x.setFog(tick, 0), 0);
-        }
-        Check.is("new: tolls", x.setToll(1, 1), 11);
-        Check.is("new: rows(0)", x.rows(0), 1);
-        Check.is("new: rows(5)", x.rows(5), 0);
-        Check.is("new: keep", x.keep(), -1);
-        Check.isDouble("new: mean", x.mean(), 0.0);
-    }
-
     private static void promise2() {
-        FogBridge x = withSignals(1, 21, 222222);
-        Check.refuses(x, "the same", STATE, () -> x.addSignal(21));
-        Check.refuses(x, "the beginning of one", STATE, () -> x.addSignal(2));
-        Check.refuses(x, "the beginning of one, 5 rings", STATE, () -> x.addSignal(22222));
-        Check.refuses(x, "one is its beginning", STATE, () -> x.addSignal(12));
-        Check.refuses(x, "one is its beginning, 6 rings", STATE, () -> x.addSignal(211111));
-        int[] noRows = {0, 3, -1, -12, 10, 20, 102, 13, 31, 120, 1111111, 2222222, 1111111111, 2111111111,
-            Integer.MAX_VALUE, Integer.MIN_VALUE};
-        for (int rings : noRows) {
-            Check.refuses(x, "addSignal(" + rings + ")", ARGUMENT, () -> x.addSignal(rings));
-        }
+        FogBridge x = States.withSignals(1, 21, 222222);
         Check.is("a row that only ends like one", x.addSignal(2221), 3);
         Check.is("count(1)", x.count(1), 4);
     }
 
     private static void promise2Full() {
-        FogBridge x = withSignals(111, 112, 121, 122, 211, 212, 221);
+        FogBridge x = States.withSignals(111, 112, 121, 122, 211, 212, 221);
         Check.is("the eighth", x.addSignal(2221), 7);
-        Check.refuses(x, "the ninth", STATE, () -> x.addSignal(2222));
-        Check.refuses(x, "no row, when there are 8", ARGUMENT, () -> x.addSignal(3));
         Check.is("count(1)", x.count(1), 8);
         Check.is("the last one is read", x.read(2221, 1), 7);
     }
 
     private static void promise3() {
-        FogBridge x = withSignals(1, 21, 2211, 222);
+        FogBridge x = States.withSignals(1, 21, 2211, 222);
         Check.is("signals of 1 21 222", x.read(121222, 0), 3);
         Check.is("last of 1 21 222", x.read(121222, 1), 3);
         Check.is("left of 1 21 222", x.read(121222, 2), 0);
@@ -92,22 +45,15 @@ public final class CodeTest {
     }
 
     private static void promise3LongRows() {
-        FogBridge x = withSignals(1, 222222, 21);
+        FogBridge x = States.withSignals(1, 222222, 21);
         Check.is("nine short", x.read(111111111, 0), 9);
         Check.is("nine long", x.read(222222222, 0), 1);
         Check.is("nine long, left", x.read(222222222, 2), 3);
         Check.is("nine, last", x.read(122222221, 1), 2);
-        int[] noRows = {-1, 3, 10, 120, 1111111111, 1000000000, 2122222222, Integer.MIN_VALUE, Integer.MAX_VALUE};
-        for (int rings : noRows) {
-            Check.refuses(x, "read(" + rings + ")", ARGUMENT, () -> x.read(rings, 0));
-        }
-        Check.refuses(x, "read(1, 3)", INDEX, () -> x.read(1, 3));
-        Check.refuses(x, "read(1, -1)", INDEX, () -> x.read(1, -1));
-        Check.refuses(x, "read(3, 3)", ARGUMENT, () -> x.read(3, 3));
     }
 
     private static void promise4() {
-        FogBridge x = withSignals(121212, 22, 11);
+        FogBridge x = States.withSignals(121212, 22, 11);
         Check.is("no fog", x.heard(0), 121212);
         x.setFog(0, 3);
         x.setFog(1, 6);
@@ -121,12 +67,10 @@ public final class CodeTest {
         Check.is("nothing is heard", x.heard(1), 0);
         Check.is("later the first ones are lost", x.heard(0), 1212);
         Check.is("tick after it", x.count(0), 3);
-        Check.refuses(x, "heard(3)", INDEX, () -> x.heard(3));
-        Check.refuses(x, "heard(-1)", INDEX, () -> x.heard(-1));
     }
 
     private static void promise4TableGoesRound() {
-        FogBridge x = withSignals(2121);
+        FogBridge x = States.withSignals(2121);
         x.setFog(0, 9);
         x.setFog(19, 4);
         x.pass(18);
@@ -136,42 +80,38 @@ public final class CodeTest {
     }
 
     private static void promise5() {
-        FogBridge x = withSignals(1, 21, 2211, 222, 2212);
+        FogBridge x = States.withSignals(1, 21, 2211, 222, 2212);
         int[] safe = {1, 1, 2, 3, 3};
         for (int signal = 0; signal < safe.length; signal++) {
             Check.is("safe(" + signal + ")", x.safe(signal), safe[signal]);
         }
-        FogBridge y = withSignals(111111);
+        FogBridge y = States.withSignals(111111);
         Check.is("six alike, alone", y.safe(0), 6);
-        FogBridge z = withSignals(12, 11, 22, 2111, 2112);
+        FogBridge z = States.withSignals(12, 11, 22, 2111, 2112);
         Check.is("safe(2111)", z.safe(3), 4);
-        FogBridge w = withSignals(1, 2111);
+        FogBridge w = States.withSignals(1, 2111);
         Check.is("three of four are safe", w.safe(1), 3);
-        FogBridge v = withSignals(11, 2121, 21221, 22);
+        FogBridge v = States.withSignals(11, 2121, 21221, 22);
         Check.is("two of five make another signal", v.safe(2), 3);
-        Check.refuses(x, "safe(5)", INDEX, () -> x.safe(5));
-        Check.refuses(x, "safe(-1)", INDEX, () -> x.safe(-1));
     }
 
     private static void promise6() {
-        FogBridge x = withSignals(1, 2);
+        FogBridge x = States.withSignals(1, 2);
         Check.is("all rows of 20", x.rows(20), 1 << 20);
         Check.is("all rows of 1", x.rows(1), 2);
-        FogBridge y = withSignals(12, 11, 22, 2111, 2112);
+        FogBridge y = States.withSignals(12, 11, 22, 2111, 2112);
         int[] rows = {1, 0, 3, 0, 11, 0, 39};
         for (int length = 0; length < rows.length; length++) {
             Check.is("rows(" + length + ")", y.rows(length), rows[length]);
         }
-        FogBridge z = withSignals(111111);
+        FogBridge z = States.withSignals(111111);
         Check.is("rows(5) of one of 6", z.rows(5), 0);
         Check.is("rows(6) of one of 6", z.rows(6), 1);
         Check.is("rows(20) of one of 6", z.rows(20), 0);
-        FogBridge w = withSignals(1, 21);
+        FogBridge w = States.withSignals(1, 21);
         Check.is("rows(20) by 1 and 2 rings", w.rows(20), 10946);
         Check.is("rows(0)", w.rows(0), 1);
         w.addSignal(221);
         Check.is("after one more signal", w.rows(4), 7);
-        Check.refuses(x, "rows(-1)", ARGUMENT, () -> x.rows(-1));
-        Check.refuses(x, "rows(21)", ARGUMENT, () -> x.rows(21));
     }
 }

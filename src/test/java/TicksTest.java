@@ -1,8 +1,5 @@
-/** Promises 14 to 17: boxes and ticks. */
+/** Promises 14 to 17, boxes and ticks; what is refused stands in TicksEdgesTest. */
 public final class TicksTest {
-    private static final Class<IllegalArgumentException> ARGUMENT = IllegalArgumentException.class;
-    private static final Class<IndexOutOfBoundsException> INDEX = IndexOutOfBoundsException.class;
-
     public static void main(String[] args) {
         promise14();
         promise15();
@@ -48,10 +45,6 @@ public final class TicksTest {
         x.empty(0);
         boxIs("emptied", x, 0, 0, 2, 7, 0);
         boxIs("the other one is not", x, 1, 3, 1, 2, 0);
-        Check.refuses(x, "box(2, 0)", INDEX, () -> x.box(2, 0));
-        Check.refuses(x, "box(-1, 0)", INDEX, () -> x.box(-1, 0));
-        Check.refuses(x, "box(0, 4)", INDEX, () -> x.box(0, 4));
-        Check.refuses(x, "box(0, -1)", INDEX, () -> x.box(0, -1));
     }
 
     private static void promise15() {
@@ -78,8 +71,6 @@ public final class TicksTest {
         x.change();
         x.pass(8);
         Check.is("end 1", x.empty(1), 4);
-        Check.refuses(x, "empty(2)", INDEX, () -> x.empty(2));
-        Check.refuses(x, "empty(-1)", INDEX, () -> x.empty(-1));
     }
 
     private static void promise15GoingBack() {
@@ -110,9 +101,6 @@ public final class TicksTest {
         Check.is("the others", x.pass(200), 2);
         Check.is("nobody more", x.pass(1), 0);
         Check.is("tick", x.count(0), 204);
-        Check.refuses(x, "pass(0)", ARGUMENT, () -> x.pass(0));
-        Check.refuses(x, "pass(-1)", ARGUMENT, () -> x.pass(-1));
-        Check.refuses(x, "pass(201)", ARGUMENT, () -> x.pass(201));
     }
 
     private static void goingOn() {
@@ -258,7 +246,5 @@ public final class TicksTest {
         }
         x.change();
         Check.is("the open direction", x.count(7), 1);
-        Check.refuses(x, "count(11)", INDEX, () -> x.count(11));
-        Check.refuses(x, "count(-1)", INDEX, () -> x.count(-1));
     }
 }
