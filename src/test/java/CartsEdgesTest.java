@@ -468,6 +468,7 @@ public final class CartsEdgesTest {
         }
     }
 
+    // calls that only tell, or set what is set already
     private static void looksChangeNothing() {
         for (int what = 0; what <= 8; what++) {
             int asked = what;

@@ -609,6 +609,7 @@ public final class TicksEdgesTest {
         }
     }
 
+    // calls that only tell, or set what is set already
     private static void looksChangeNothing() {
         for (int what = 0; what <= 10; what++) {
             int asked = what;
